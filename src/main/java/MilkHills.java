@@ -363,17 +363,14 @@ public final class MilkHills {
         if (!within(p, 0, 16) || !within(n, 0, 12) || !within(part, 0, 1)) {
             return refuse(BEYOND);
         }
-        if (p == 16 && n > 0) {
-            return part;
-        }
         long above = 1;
         long below = 1;
         for (int i = 0; i < n; i++) {
             above *= 16 - p;
             below *= 16;
         }
-        // What is below the line is a power of two, so nothing but 2 can be cut.
-        for (int i = 0; i < 48 && above % 2 == 0 && below % 2 == 0; i++) {
+        // What is below the line is a power of two (2 by 4 times n), so nothing but 2 can be cut.
+        for (int i = 0; i < 4 * n && above % 2 == 0 && below % 2 == 0; i++) {
             above /= 2;
             below /= 2;
         }

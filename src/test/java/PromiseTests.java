@@ -582,11 +582,11 @@ public final class PromiseTests {
         promise = 16;
         MilkHills x = new MilkHills();
         String[] texts = {"s", "r", "m", "2+3*4", "(2+3)*4", "20-3-2", "100/7/2", "r%s", "0-7+9", "1|0", "0|0", "5&2",
-            "5&0", "0|7", "7|0&0", "1<2", "2<1", "1<1", "2=2", "2=1", "2>1", "1>2", "!0", "!5", "!!5", "s/0", "s%0",
+            "5&0", "0|7", "7|0&0", "1<2", "2<1", "1<1", "2=2", "2=1", "2>1", "1>2", "1>1", "!0", "!5", "!!5", "s/0", "s%0",
             "(0-7)/2+9", "(0-7)%4+9", "!s+1", "!(s=6)", "1+1=2", "1=1&2=2", "1&2<1|1", "s*r+m", "0001+0010",
             "(9999*9999*99>0)+5", "2-(1<2)", "3<2+2", "999+9", "0-1", "7-2*3", "8/2*4", "7%4*2", "10-(2-1)"};
         int[] want = {7, 20, 3, 14, 20, 15, 7, 6, 2, 1, 0, 1,
-            0, 1, 1, 1, 0, 0, 1, 0, 1, 0, 1, 0, 1, 0, 0,
+            0, 1, 1, 1, 0, 0, 1, 0, 1, 0, 0, 1, 0, 1, 0, 0,
             6, 6, 1, 1, 1, 1, 1, 143, 11,
             (9999 * 9999 * 99 > 0 ? 1 : 0) + 5, 1, 1, 999, 0, 1, 16, 6, 9};
         for (int i = 0; i < texts.length; i++) {
@@ -907,6 +907,33 @@ public final class PromiseTests {
         due("nine hills", y.relays(0, 60, -1), 18);
         due("at the last", y.relays(0, 9, 8), 0);
         refused(y, NONE, "8 quarters", () -> y.relays(0, 8, 0));
+        relaysByWaiting();
+    }
+
+    /** All HILLS have a brook, and one goes without SOUR in each third QUARTER only. */
+    private static void relaysByWaiting() {
+        MilkHills x = with(0);
+        for (int hill = 0; hill <= 8; hill++) {
+            x.hill(hill, 1, 1);
+            x.carrier(hill, 1, 0);
+        }
+        text(x, 0, "(q%3>0)*5");
+        int[] by = {25, 24, 22, 21, 19, 18};
+        int[] sour = {0, 5, 5, 10, 10, 15};
+        String[] ways = {"0 20 20 20 20 20 20 20 20 ", "0 0 10 20 20 20 20 20 20 ", "0 0 10 20 20 20 20 20 20 ",
+            "0 0 0 0 20 20 20 20 20 ", "0 0 0 0 20 20 20 20 20 ", "0 0 0 0 0 10 20 20 20 "};
+        for (int i = 0; i < by.length; i++) {
+            due("SOUR by " + by[i], x.relays(0, by[i], -1), sour[i]);
+            StringBuilder way = new StringBuilder();
+            for (int hill = 0; hill <= 8; hill++) {
+                way.append(x.relays(0, by[i], hill)).append(' ');
+            }
+            dueAll("the way by " + by[i], way.toString(), ways[i]);
+        }
+        bring(x, 0, 8);
+        text(x, 0, "(q<11)*5");
+        due("it would have to wait 3", x.relays(0, 60, -1), 5);
+        due("so it goes at once", x.relays(0, 60, 8), 0);
     }
 
     private static void turns() {
@@ -929,6 +956,11 @@ public final class PromiseTests {
         x.carrier(0, 9, 0);
         text(x, 0, "t/10*10");
         due("by SOUR", x.turnsAt(0, 0), 5);
+        text(x, 0, "q");
+        x.carrier(0, 1, 0);
+        due("0 to 8, 36 together", x.turnsAt(0, 0), -1);
+        x.carrier(0, 5, 0);
+        due("0 to 14 are 105", x.turnsAt(0, 0), 2);
         x.giveUp(2);
         bring(x, 3, 9);
         x.go(1, 3);
@@ -1012,6 +1044,12 @@ public final class PromiseTests {
         due("with one there are", x.cellar(0, 60, 1), 80);
         x.hill(7, 0, 0);
         due("one that was cold already", x.cellar(0, 60, 0), 8);
+        refused(x, NONE, "by 0 quarters", () -> x.cellar(0, 0, 0));
+        x.refill(0);
+        bring(x, 0, 7);
+        text(x, 0, "t");
+        due("SOUR 0", x.cellar(0, 60, 1), 0);
+        due("SOUR 0 by hill 8", x.cellar(0, 2, 0), 8);
         x.giveUp(2);
         x.refill(3);
         bring(x, 3, 9);
@@ -1028,8 +1066,9 @@ public final class PromiseTests {
         for (int bad : new int[] {-1, 2, MIN, MAX}) {
             refused(x, BEYOND, "what " + bad, () -> x.cellar(3, 60, bad));
         }
-        x.thunder();
-        x.thunder();
+        for (int i = 0; i < 4; i++) {
+            x.thunder();
+        }
         refused(x, STATE, "not sweet", () -> x.cellar(0, 60, 0));
     }
 
@@ -1127,6 +1166,10 @@ public final class PromiseTests {
         voice(64, 3, 10, 22 - (22 ^ (-6 ^ 1)), "71 11 10 13 11 10 70 40 12 ");
         promise = 28;
         MilkHills x = with(0, 9);
+        MilkHills y = with(0, 0, 0, 64, 64, 64);
+        due("cools of 3", y.voice(3, 2, 10), -6 ^ 3);
+        due("cools of 5", y.voice(5, 2, 10), -6 ^ 5);
+        due("fills of 5", y.voice(5, 0, 10), 15);
         due("ints go round", x.voice(0, 1, MAX), -2);
         due("and round", x.voice(1, 2, MIN), MAX - 8);
         due("it looks like an error", x.voice(0, 0, LOW - 1), LOW - 1);
@@ -1348,6 +1391,11 @@ public final class PromiseTests {
         due("one given up", x.check(), 0);
         x.tell(11);
         due("not so", x.check(), 1);
+        text(x, 0, "q+1");
+        x.tell(16);
+        x.tell(23);
+        x.tell(31);
+        due("WARM by quarters, on its way and there", x.check(), 0);
         MilkHills none = new MilkHills();
         none.tell(0);
         none.tell(1);
