@@ -813,6 +813,7 @@ public final class BoundaryTests {
         y.carrier(0, 1, 0);
         text(y, 0, "(q=7)+(q=8)");
         dueAll("as early as can be", way(y, 0, 60), 20, 0);
+        firstOfUnlike();
         says("(QUARTERS go on from now.)");
         MilkHills z = at(8);
         z.quarters(87);
@@ -830,6 +831,33 @@ public final class BoundaryTests {
         due("none: SOUR", w.relays(0, 5, -1), NONE);
         due("none: a HILL", w.relays(0, 5, 3), NONE);
         due("there are some", w.relays(0, 6, 3), 0);
+    }
+
+    /** Of CARRIERS of unlike PACES, what is best AT HILL 8 is another thing by each. */
+    private static void firstOfUnlike() {
+        MilkHills x = at(7);
+        for (int carrier = 1; carrier < 4; carrier++) {
+            x.carrier(carrier, 3, 0);
+        }
+        x.hill(7, 1, 1);
+        x.hill(8, 1, 1);
+        text(x, 0, "(q=7|q=9|q=10)*9");
+        due("SOUR", x.relays(0, 60, -1), 0);
+        dueAll("waits in QUARTER 7, and in 9 and 10", way(x, 0, 60), 10, 20);
+        MilkHills y = at(7);
+        y.carrier(0, 1, 2);
+        y.carrier(1, 3, 0);
+        y.carrier(2, 9, 20);
+        y.carrier(3, 9, 20);
+        y.hill(7, 0, 0);
+        y.hill(8, 0, 9);
+        text(y, 0, "t*(q<10)");
+        dueAll("rather slowly than waiting", way(y, 0, 60), 1, 0);
+        dueAll("rather waiting, by 4", way(y, 0, 4), 1, 0);
+        dueAll("in haste, by 3", way(y, 0, 3), 0, 0);
+        due("SOUR by 4", y.relays(0, 4, -1), 0);
+        due("SOUR by 3", y.relays(0, 3, -1), 9);
+        due("SOUR by 2", y.relays(0, 2, -1), 9);
     }
 
     private static void straight() {
@@ -867,6 +895,10 @@ public final class BoundaryTests {
         says("BY WHOM: .. from a told QUARTER on (0 to 9999), comes to the TOWN with a told SOUR");
         MilkHills z = with(0);
         due("none with -1", z.byWhom(0, 0, -1), 0);
+        due("none with 0", z.byWhom(0, 0, 0), 0);
+        warm(z, 0);
+        due("all with 0", z.byWhom(0, 0, 0), 15);
+        text(z, 0, "t/4");
         due("from QUARTER 0", z.byWhom(0, 0, 18), 1);
         due("from QUARTER 9999", z.byWhom(0, 9999, 72), 8);
         z.carrier(3, 2, 0);
@@ -923,6 +955,22 @@ public final class BoundaryTests {
         dueAll("the TOWN has no more", new int[] {x.bestGiven(0, 0, 0), x.bestGiven(0, 0, 1)}, 7, 110);
         text(x, 1, "111");
         dueAll("the TOWN has more", new int[] {x.bestGiven(0, 0, 0), x.bestGiven(0, 0, 1)}, 9, 111);
+        givenOnTheWay(x);
+    }
+
+    /** The same CHURN goes on: AT HILL 6, in QUARTER 6, neither SOUR nor SHAKEN. */
+    private static void givenOnTheWay(MilkHills x) {
+        says("BEST GIVEN UP: STRAIGHT by a CARRIER (as QUARTERS go on)");
+        text(x, 1, "0");
+        text(x, 0, "(q=7)*30+(q=8)*20");
+        x.hill(6, 2, 0);
+        x.hill(7, 2, 50);
+        x.hill(8, 2, 72);
+        dueAll("SOUR 30 AT HILL 8", new int[] {x.bestGiven(0, 0, 0), x.bestGiven(0, 0, 1)}, 8, 504);
+        x.hill(8, 2, 71);
+        dueAll("SOUR 0 AT HILL 7", new int[] {x.bestGiven(0, 0, 0), x.bestGiven(0, 0, 1)}, 7, 500);
+        text(x, 1, "r*10+1");
+        dueAll("SOUR 50 IN TOWN", new int[] {x.bestGiven(0, 0, 0), x.bestGiven(0, 0, 1)}, 9, 501);
         says("at a HILL .. (sweet there, or not), in the TOWN WORTH");
         warm(x, 30);
         x.hill(8, 2, 99);
@@ -971,6 +1019,9 @@ public final class BoundaryTests {
         due("SOUR", y.cellar(0, 60, 1), 5);
         text(y, 0, "t");
         due("HILL 8", y.cellar(0, 60, 0), 8);
+        text(y, 0, "t+3");
+        due("SOUR of a HEAT of 0", y.cellar(0, 60, 1), 3);
+        text(y, 0, "t");
         y.hill(8, 0, 0);
         due("it is cold already", y.cellar(0, 60, 0), 0);
         says("NONE: with none there are RELAYS.");
@@ -1445,7 +1496,7 @@ public final class BoundaryTests {
         y.hill(3, 1, 2);
         y.carrier(1, 7, 13);
         y.feed('q', 1);
-        y.tell(2);
+        y.tell(3);
         y.tell(5);
         y.voice(1, 0, 1);
         y.sheet(0, 8, 1);
@@ -1457,8 +1508,9 @@ public final class BoundaryTests {
         y.tell(77);
         y.tell(78);
         y.text(0);
-        y.feed(0x7373, 2);
+        text(y, 0, "(t+q)*2-3");
         text(y, 1, "1");
+        y.feed(0x7373, 2);
         y.voice(1, 3, 1);
         y.sheet(0, 16, 2);
         y.sheet(1, 8, 1);
@@ -1468,7 +1520,8 @@ public final class BoundaryTests {
         due("ROOM", y.ofHill(3, 1), 2);
         due("CHURNS", y.count(0), 2);
         due("numbers", y.count(7), 2);
-        due("the first number, the second isn't so", y.check(), 1);
+        due("WARM", y.law(0, 21, 1, 0), 5);
+        due("the first number is so, the second isn't", y.check(), 2);
         due("bytes", y.count(6), 1);
         due("they", y.text(0), 1);
         due("q", y.law(0, 0, 3, 0), 3);
