@@ -25,6 +25,7 @@ public final class RandomRuns {
     private final MilkHills hills = new MilkHills();
     private final Model model = new Model();
     private final StringBuilder said = new StringBuilder();
+    private int made;
     private int wrong;
     private static final Map<String, Method> METHODS = new HashMap<>();
     private static final Map<String, Integer> GOOD = new HashMap<>();
@@ -57,18 +58,20 @@ public final class RandomRuns {
         if (calm) {
             prepare();
         }
-        for (int i = 0; i < 300 && wrong == 0; i++) {
+        // All is read but once, as an object is used for at most 512 calls.
+        int last = 40 + random.nextInt(290);
+        while (made < last && wrong == 0) {
             if (random.nextInt(25) == 0) {
                 feedText();
             } else {
                 String name = NAMES[random.nextInt(NAMES.length)];
                 call(name, arguments(name));
             }
-            if (i % 10 == 0) {
-                readAll();
-            }
         }
         readAll();
+        if (made > 512) {
+            throw new IllegalStateException(made + " calls on one object");
+        }
         return wrong;
     }
 
@@ -222,6 +225,7 @@ public final class RandomRuns {
     }
 
     private long hillsAnswer(String name, long[] a) {
+        made++;
         Method m = METHODS.get(name);
         Object[] given = new Object[a.length];
         for (int i = 0; i < a.length; i++) {
