@@ -1264,11 +1264,17 @@ public final class MilkHills {
         private static final int TIMES = LONGEST + 1;
         private static final int SHAKES = 60;
         private static final int LEVEL = TIMES * SHAKES;
-        private static final int NEVER = 1000000;
+        /** More than a CHURN that stays sweet can still take in, as TURNS is 125 at most. */
+        private static final int NEVER = 126;
         private static final int CHOICES = 32;
+        private static final int BITS = 12;
+        private static final int IN_A_LONG = 5;
 
-        /** 0: not worked out yet; else 1 more than CHOICES times the least SOUR to come, and the first choice to it. */
-        private final int[] found = new int[HILLS * LEVEL];
+        /**
+         * 0: not worked out yet; else 1 more than CHOICES times the least SOUR to come, and the first choice to it.
+         * Of these, which have 12 BITS at most, five stand in a long, as an object is to be made of few elements.
+         */
+        private final long[] found = new long[HILLS * LEVEL / IN_A_LONG];
         /** For each HILL, the SOUR that all QUARTERS ahead of one bring. */
         private final int[] sums = new int[HILLS * TIMES];
         private final boolean[] cool = new boolean[HILLS];
@@ -1334,7 +1340,18 @@ public final class MilkHills {
 
         private int firstChoice(int hill, int gone, int shakenThen) {
             int place = placeOf(hill, gone, shakenThen);
-            return place >= 0 && found[place] > 0 ? (found[place] - 1) % CHOICES : 0;
+            int known = place < 0 ? 0 : foundAt(place);
+            return known > 0 ? (known - 1) % CHOICES : 0;
+        }
+
+        private int foundAt(int place) {
+            long five = found[place / IN_A_LONG];
+            return (int) (five >>> (BITS * (place % IN_A_LONG))) & ((1 << BITS) - 1);
+        }
+
+        /** Only for a place at which nothing has been found yet. */
+        private void keep(int place, int known) {
+            found[place / IN_A_LONG] |= (long) known << (BITS * (place % IN_A_LONG));
         }
 
         /** -1: no relays stand there. */
@@ -1354,8 +1371,9 @@ public final class MilkHills {
             if (place < 0) {
                 return NEVER;
             }
-            if (found[place] > 0) {
-                return (found[place] - 1) / CHOICES;
+            int known = foundAt(place);
+            if (known > 0) {
+                return (known - 1) / CHOICES;
             }
             int latest = by - quickest * (HILLS - 1 - hill);
             int best = NEVER;
@@ -1366,8 +1384,8 @@ public final class MilkHills {
                     int comes = leaves + paces[carrier];
                     int after = shakenThen + jolts[carrier];
                     if (comes <= latest && after < SHAKES) {
-                        int waited = cool[hill] ? 0 : between(hill, gone, leaves);
-                        int all = waited + between(hill, leaves, comes) + least(hill + 1, comes, after);
+                        int here = between(hill, cool[hill] ? leaves : gone, comes);
+                        int all = here < best ? here + least(hill + 1, comes, after) : best;
                         if (all < best) {
                             best = all;
                             choice = 10 * wait + carrier;
@@ -1375,7 +1393,7 @@ public final class MilkHills {
                     }
                 }
             }
-            found[place] = 1 + CHOICES * best + choice;
+            keep(place, 1 + CHOICES * best + choice);
             return best;
         }
 
@@ -1393,7 +1411,7 @@ public final class MilkHills {
         }
 
         private void forget(int last) {
-            Arrays.fill(found, first * LEVEL, (last + 1) * LEVEL, 0);
+            Arrays.fill(found, first * LEVEL / IN_A_LONG, (last + 1) * LEVEL / IN_A_LONG, 0L);
         }
     }
 }

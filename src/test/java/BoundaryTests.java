@@ -786,6 +786,31 @@ public final class BoundaryTests {
         due("CREAMED: 39 and 20", z.relays(0, 60, -1), 0);
         z.carrier(0, 1, 11);
         due("CREAMED: 39 and 22", z.relays(0, 60, -1), NONE);
+        mostSour();
+    }
+
+    private static void mostSour() {
+        says("and sweet in each (RUNNING with m 9 TURNS at 125, the most of all)");
+        MilkHills x = with(49);
+        for (int carrier = 0; carrier < 4; carrier++) {
+            x.carrier(carrier, 1, 0);
+        }
+        text(x, 0, "t");
+        for (int hill = 0; hill <= 8; hill++) {
+            x.hill(hill, 0, 10);
+        }
+        x.hill(4, 0, 17);
+        due("8 times 13, and 20", x.relays(0, 60, -1), 124);
+        dueAll("all alike", way(x, 0, 60), 0, 0, 0, 0, 0, 0, 0, 0, 0);
+        x.hill(4, 0, 18);
+        due("8 times 13, and 21", x.relays(0, 60, -1), NONE);
+        due("HILL", x.cellar(0, 60, 0), 4);
+        due("SOUR with it", x.cellar(0, 60, 1), 107);
+        x.hill(4, 0, 17);
+        x.quarters(1);
+        due("13 ahead", x.relays(0, 60, -1), NONE);
+        x.hill(4, 0, 4);
+        due("13 ahead, 8 times 13, and 7", x.relays(0, 60, -1), 124);
     }
 
     private static void firstRelays() {

@@ -1,14 +1,33 @@
+import com.sun.source.tree.ClassTree;
+import com.sun.source.tree.CompilationUnitTree;
+import com.sun.source.tree.LineMap;
+import com.sun.source.tree.MethodTree;
+import com.sun.source.tree.NewArrayTree;
+import com.sun.source.tree.NewClassTree;
+import com.sun.source.tree.Tree;
+import com.sun.source.util.JavacTask;
+import com.sun.source.util.SourcePositions;
+import com.sun.source.util.TreeScanner;
+import com.sun.source.util.Trees;
 import java.io.IOException;
+import java.lang.reflect.Array;
 import java.lang.reflect.Field;
 import java.lang.reflect.Method;
 import java.lang.reflect.Modifier;
 import java.nio.file.Files;
 import java.nio.file.Path;
+import java.util.ArrayDeque;
 import java.util.Arrays;
+import java.util.Collections;
+import java.util.Deque;
+import java.util.IdentityHashMap;
 import java.util.Set;
 import java.util.TreeSet;
 import java.util.regex.Matcher;
 import java.util.regex.Pattern;
+import javax.tools.JavaCompiler;
+import javax.tools.StandardJavaFileManager;
+import javax.tools.ToolProvider;
 
 /** What of LANGUAGE.md can be asked of the source's words and of the compiled classes. */
 public final class LanguageTests {
@@ -20,8 +39,10 @@ public final class LanguageTests {
     private LanguageTests() {
     }
 
-    public static void main(String[] args) throws IOException {
+    public static void main(String[] args) throws IOException, IllegalAccessException {
         words(Files.readString(Path.of(args[0])));
+        methods(Path.of(args[0]));
+        room();
         face();
         for (Class<?> c : MilkHills.class.getDeclaredClasses()) {
             inside(c);
@@ -62,6 +83,108 @@ public final class LanguageTests {
         }
         int longest = Arrays.stream(source.split("\n")).mapToInt(String::length).max().orElse(0);
         due(longest <= 120, "a line of " + longest);
+    }
+
+    /** What is made is made in constructors and initialisers alone; no method is longer than sixty lines. */
+    private static void methods(Path source) throws IOException {
+        JavaCompiler compiler = ToolProvider.getSystemJavaCompiler();
+        try (StandardJavaFileManager files = compiler.getStandardFileManager(null, null, null)) {
+            JavaCompiler.CompilationTask task =
+                compiler.getTask(null, files, null, null, null, files.getJavaFileObjects(source));
+            SourcePositions positions = Trees.instance(task).getSourcePositions();
+            for (CompilationUnitTree unit : ((JavacTask) task).parse()) {
+                new Methods(unit, positions).scan(unit, null);
+            }
+        }
+    }
+
+    private static final class Methods extends TreeScanner<Void, Void> {
+        private final CompilationUnitTree unit;
+        private final SourcePositions positions;
+        private String method = "";
+
+        Methods(CompilationUnitTree unit, SourcePositions positions) {
+            this.unit = unit;
+            this.positions = positions;
+        }
+
+        @Override
+        public Void visitClass(ClassTree tree, Void none) {
+            String outer = method;
+            method = "";
+            super.visitClass(tree, none);
+            method = outer;
+            return null;
+        }
+
+        @Override
+        public Void visitMethod(MethodTree tree, Void none) {
+            String outer = method;
+            method = tree.getName().contentEquals("<init>") ? "" : tree.getName().toString();
+            LineMap lines = unit.getLineMap();
+            long first = lines.getLineNumber(positions.getStartPosition(unit, tree));
+            long last = lines.getLineNumber(positions.getEndPosition(unit, tree));
+            due(last - first < 60, "longer than sixty lines: " + tree.getName());
+            super.visitMethod(tree, none);
+            method = outer;
+            return null;
+        }
+
+        @Override
+        public Void visitNewClass(NewClassTree tree, Void none) {
+            made(tree);
+            return super.visitNewClass(tree, none);
+        }
+
+        @Override
+        public Void visitNewArray(NewArrayTree tree, Void none) {
+            made(tree);
+            return super.visitNewArray(tree, none);
+        }
+
+        private void made(Tree tree) {
+            due(method.isEmpty(), "made in " + method + ": " + tree);
+        }
+    }
+
+    /** The one room of a run holds all, even if each of 512 calls were the constructor. */
+    private static void room() throws IllegalAccessException {
+        int calls = 512;
+        Set<Object> seen = Collections.newSetFromMap(new IdentityHashMap<>());
+        Deque<Object> left = new ArrayDeque<>();
+        reach(new MilkHills(), seen, left);
+        long elements = 0;
+        while (!left.isEmpty()) {
+            Object o = left.pop();
+            if (o.getClass().isArray()) {
+                elements += Array.getLength(o);
+                for (int i = 0; i < Array.getLength(o); i++) {
+                    if (!o.getClass().getComponentType().isPrimitive()) {
+                        reach(Array.get(o, i), seen, left);
+                    }
+                }
+                continue;
+            }
+            for (Class<?> c = o.getClass(); c != Object.class && c != String.class; c = c.getSuperclass()) {
+                for (Field f : c.getDeclaredFields()) {
+                    if (!Modifier.isStatic(f.getModifiers())) {
+                        elements++;
+                        f.setAccessible(true);
+                        if (!f.getType().isPrimitive()) {
+                            reach(f.get(o), seen, left);
+                        }
+                    }
+                }
+            }
+        }
+        due(seen.size() * calls <= 600000, "an object is made of " + seen.size() + " objects and arrays");
+        due(elements * calls <= 7300000, "an object has " + elements + " fields and elements");
+    }
+
+    private static void reach(Object o, Set<Object> seen, Deque<Object> left) {
+        if (o != null && seen.add(o)) {
+            left.push(o);
+        }
     }
 
     private static void face() {
